@@ -127,7 +127,8 @@ public final class StageLayerTest {
             x.assign(0, ALL);
         }
         x.clear();
-        due("clear: places read are forgotten", x.assign(0, ALL), 0);
+        readPlaces(x, 800);
+        due("clear: all places may be read again", x.count(0), 29);
     }
 
     private static void assign() {
@@ -276,13 +277,17 @@ public final class StageLayerTest {
     /** An object in which so many places were read, by assigns. */
     private static StageLayer afterReading(int places) {
         StageLayer x = new StageLayer();
+        readPlaces(x, places);
+        return x;
+    }
+
+    private static void readPlaces(StageLayer x, int places) {
         int left = places;
         while (left > 0) {
             int now = Math.min(left, 28);
             x.assign(0, (int) ((1L << now) - 1));
             left -= now;
         }
-        return x;
     }
 
     private static void readLimit() {
@@ -418,6 +423,13 @@ public final class StageLayerTest {
         x.drop();
         layWide(x);
         stages("an instance is no meta", x, 0, 0, 0, 0);
+
+        x.clear();
+        x.valid(3, true);
+        x.assign(18, field(2));
+        x.assign(20, field(4));
+        layWide(x);
+        stages("an instance's neighbours are free of it", x, 0, 0, 0);
     }
 
     private static void ifs() {
@@ -442,6 +454,14 @@ public final class StageLayerTest {
         x.load(5, 0, 0);
         due("ifs: open ones are laid too", layWide(x), 4);
         stages("ifs: open", x, 0, 1, 2, 3, 3);
+
+        x.clear();
+        for (int n = 0; n < 8; n++) {
+            x.open(0);
+        }
+        x.drop();
+        due("ifs: in 8 of them", layWide(x), 9);
+        stages("ifs: in 8 of them", x, 0, 1, 2, 3, 4, 5, 6, 7, 8);
     }
 
     private static void arrays() {
